@@ -213,7 +213,7 @@ public final class PleasToIssue {
         if (n < 1 || n > MOST_WORTH) {
             return BAD;
         }
-        return i < -1 ? NONE : kept.trapsIn(c, n, i);
+        return kept.trapsIn(c, n, i);
     }
 
     // ---- truth, edges, reform
@@ -268,8 +268,8 @@ public final class PleasToIssue {
         }
         tried.restart(by, NONE);
         for (int k = 0; k < n; k++) {
-            // i is looked at by itself first: i + k may wrap
-            if (i < 0 || i >= tapeSizes[tape] || i + k >= tapeSizes[tape]) {
+            // behind the first one i is below the size, so that i + k can't wrap
+            if (i < 0 || i + k >= tapeSizes[tape]) {
                 return BEYOND + k;
             }
             int plea = (int) tapeItems[tape][i + k];
@@ -676,7 +676,7 @@ public final class PleasToIssue {
 
     /** How a ROLL stands behind one of its PLEAS (or the CHARGE). */
     private static final class Stage {
-        /** The PLEA and its KIND; 0, 0 of the CHARGE. */
+        /** The PLEA and its KIND; 0, 0 of the CHARGE, which is the first stage of all and never changes. */
         int plea;
         int kind;
         int slip;
@@ -691,18 +691,6 @@ public final class PleasToIssue {
         int slips;
         /** The PLEA that was found best from here on. */
         int best;
-
-        void charge() {
-            plea = 0;
-            kind = 0;
-            slip = 0;
-            point = 0;
-            pleader = DEFENDANT;
-            admitted = 0;
-            stood = 1;
-            daysAsked[PLAINTIFF] = 0;
-            daysAsked[DEFENDANT] = 0;
-        }
 
         void follow(Stage was, int made) {
             plea = made;
@@ -745,8 +733,9 @@ public final class PleasToIssue {
             this.assigns = assigns;
             for (int i = 0; i <= MOST_PLEAS; i++) {
                 stages[i] = new Stage();
-                stages[i].charge();
             }
+            stages[0].pleader = DEFENDANT;
+            stages[0].stood = 1;
         }
 
         /** From the CHARGE on, by RULES without one of their CLAUSES (NONE: by all). */
@@ -756,7 +745,6 @@ public final class PleasToIssue {
             last = by.numberOf(Rules.LAST, without, MOST_PLEAS, MOST_PLEAS);
             days = by.numberOf(Rules.DAYS, without, 1, MOST_DAYS);
             made = 0;
-            now().charge();
             weigh();
         }
 
@@ -764,11 +752,9 @@ public final class PleasToIssue {
             return stages[made];
         }
 
-        /** What CLAUSES hold depends on the ROLL alone, so each stage is weighed once, as it is made. */
+        /** What CLAUSES hold depends on the ROLL alone, so each stage is weighed once; at an end none asks for it. */
         private void weigh() {
             Stage now = now();
-            now.barred = 0;
-            now.slips = 0;
             if (rules == null || made >= last || now.isClosed()) {
                 return;
             }
@@ -856,7 +842,7 @@ public final class PleasToIssue {
             int from = made;
             rowsLeft = i;
             boolean found = seekRow(made);
-            int answer = !found ? NONE : k < 0 ? made - from : k < made - from ? pleaAt(from + k) : NONE;
+            int answer = !found ? NONE : k < 0 ? made - from : pleaAt(from + k);
             made = from;
             return answer;
         }
@@ -961,7 +947,7 @@ public final class PleasToIssue {
             return plea;
         }
 
-        /** How many TRAPS (i -1), or the i-th. */
+        /** How many TRAPS (i -1), or the i-th; NONE. */
         int trapsIn(Case c, int n, int i) {
             int open = open();
             int from = made;

@@ -6,6 +6,7 @@ public final class EndsTest {
         rows();
         worth();
         best();
+        bestToTheEnds();
         traps();
         asksChangeNothing();
         Checks.end();
@@ -191,6 +192,34 @@ public final class EndsTest {
         Checks.plead(x, 40);
         Checks.due("at its end", x.best(0, -1), 0);
         Checks.due("at its end: no plea", x.best(0, 0), -5);
+    }
+
+    private static void bestToTheEnds() {
+        PleasToIssue x = new PleasToIssue();
+        x.newCase(0);
+        x.link(0, 0, 1, true);
+        x.put(0, 1, 0, 9);
+        x.put(0, 1, 1, 0);
+        x.put(0, 1, 2, 0);
+        Checks.rules(x, "bar d n=0;bar l n=0;bar t n<9");
+        // behind 21 DENY is 19 to the plaintiff, and LAW 20
+        Checks.due("20, though 19 comes first", x.best(0, -1), 20);
+        Checks.due("21", x.best(0, 0), 21);
+        Checks.due("law", x.best(0, 1), 30);
+        for (int i = 2; i < 8; i++) {
+            Checks.due("no more", x.best(0, i), -5);
+        }
+        x.put(0, 0, 0, 0);
+        x.put(0, 0, 1, 9);
+        x.put(0, 0, 2, 0);
+        Checks.rules(x, "bar x n=0");
+        x.begin(1);
+        // DENY is 1, LAW 0
+        Checks.due("0, though 1 comes first", x.best(0, -1), 0);
+        Checks.due("law", x.best(0, 0), 30);
+        for (int i = 1; i < 8; i++) {
+            Checks.due("no more", x.best(0, i), -5);
+        }
     }
 
     private static void traps() {

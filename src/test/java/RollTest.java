@@ -103,6 +103,16 @@ public final class RollTest {
         barred("n=2", new int[] {21}, 1);
         barred("n=1", new int[] {21}, 0);
         barred("n<1", new int[] {}, 0);
+        barred("n<1", new int[] {21}, 1);
+        barred("n>0", new int[] {}, 1);
+        barred("k<1", new int[] {}, 0);
+        barred("k<1", new int[] {21}, 1);
+        barred("k<3", new int[] {21}, 0);
+        barred("k>5", new int[] {60}, 0);
+        barred("k>5", new int[] {54}, 1);
+        barred("a<1", new int[] {21}, 1);
+        barred("w<1", new int[] {60}, 1);
+        barred("p<1", new int[] {21}, 1);
         barred("n>1", new int[] {21, 60}, 0);
         barred("n>2", new int[] {21, 60}, 1);
         barred("p=1", new int[] {21}, 0);
@@ -143,6 +153,14 @@ public final class RollTest {
         Checks.due("no bar", two.may(21), 1);
         PleasToIssue all = linked("bar x n=0;bar l n=0;bar n n=0;bar t n=0;bar f n>0");
         allowed("bars of all but one", all, 10);
+        allowed("bar d", linked("bar d n=0"), 21, 22, 30, 54, 60);
+        allowed("bar x", linked("bar x n=0"), 10, 30, 54, 60);
+        allowed("bar l", linked("bar l n=0"), 10, 21, 22, 54, 60);
+        allowed("bar n", linked("bar n n=0"), 10, 21, 22, 30, 60);
+        allowed("bar t", linked("bar t n=0"), 10, 21, 22, 30, 54);
+        PleasToIssue form = linked("bar f n=1");
+        Checks.plead(form, 21);
+        allowed("bar f", form, 10, 23, 30, 54, 60);
     }
 
     private static void barred(String test, int[] pleas, int due) {

@@ -21,6 +21,7 @@ public final class RulesTest {
     public static void main(String[] args) {
         feed();
         rules();
+        nothingIsLeftOfTheLast();
         faults();
         Checks.end();
     }
@@ -68,6 +69,24 @@ public final class RulesTest {
         Checks.due("100 bytes", Checks.rules(y, full), 0);
         Checks.due("100 bytes that end too early", Checks.rules(y, full.substring(0, 96) + ";bar"), -110);
         Checks.due("100 bytes, the last one a fault", Checks.rules(y, full.substring(0, 99) + "x"), -109);
+    }
+
+    private static void nothingIsLeftOfTheLast() {
+        PleasToIssue x = new PleasToIssue();
+        Checks.due("a fault behind a clause", Checks.rules(x, "bar d n=0;last 0;x"), -27);
+        Checks.due("good ones", Checks.rules(x, "last 5"), 0);
+        Checks.due("no bar is left", x.may(10), 1);
+        Checks.due("shorter than the one ahead", Checks.rules(x, "last "), -15);
+        Checks.due("a test that is shorter", Checks.rules(x, "bar d n=11"), 1);
+        Checks.due("a test that is shorter", Checks.rules(x, "bar d n="), -18);
+        for (int i = 0; i < 10; i++) {
+            Checks.due("a long fault", Checks.rules(x, "bar d n=1" + "|n=1".repeat(20) + "|"), -100);
+        }
+        Checks.due("a long one behind these", Checks.rules(x, "bar d n=2" + "|n=1".repeat(21) + "|n=0"), 2);
+        x.begin(2);
+        Checks.due("its last test counts", x.may(10), 0);
+        Checks.due("the rules ahead stay", x.begin(0), 1);
+        Checks.due("the rules ahead stay", x.may(10), 1);
     }
 
     private static void faults() {

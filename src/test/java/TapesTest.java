@@ -62,6 +62,10 @@ public final class TapesTest {
         Checks.rules(x, "last 5");
         Checks.due("holds nothing", x.told(0, 0, 1, 0), 100);
         Checks.due("holds nothing, no pleas", x.told(0, 0, 0, 0), -5);
+        row(x, 2, 10);
+        x.tape(2, -1, 1);
+        Checks.due("holds nothing any more", x.told(2, 0, 1, 0), 100);
+        Checks.due("holds nothing any more", x.read(2, 0), PleasToIssue.NO);
         for (int sort = 1; sort < 5; sort++) {
             x.tape(1, sort, 3);
             Checks.due("no bytes", x.told(1, 0, 1, 0), Checks.CAST);
@@ -127,6 +131,8 @@ public final class TapesTest {
         acts(x, 5, 2, 4, 35, 31, 12, 61, 11, 60, 30, 10, 30, 10, 61, 11, 60, 30, 10, 30, 10);
         acts(x, 0, 3, 4, 0);
         acts(x, 0, -1, 4, 0);
+        acts(x, 6, 3, 4, 0);
+        acts(x, Integer.MAX_VALUE, Integer.MIN_VALUE, 4, 0);
     }
 
     private static void trace() {
@@ -192,8 +198,10 @@ public final class TapesTest {
             Checks.due("n -1", x.tape(sort + 1, sort, -1), Checks.SIZE);
             Checks.due("the least n", x.tape(sort + 1, sort, Integer.MIN_VALUE), Checks.SIZE);
             Checks.due("it stays", x.item(sort + 1, 59, 1), 1);
+            Checks.due("it stays", x.item(sort + 1, 0, 1), 1);
             Checks.due("anew", x.tape(sort + 1, sort, 60), 1);
             Checks.due("all 0", x.read(sort + 1, 59), 0);
+            Checks.due("all 0", x.read(sort + 1, 0), 0);
             Checks.due("of none", x.tape(sort + 1, sort, 0), 1);
             Checks.due("of none: nothing at 0", x.item(sort + 1, 0, 1), Checks.PLACE);
             Checks.due("holds nothing", x.tape(sort + 1, -1, 3), 1);
