@@ -30,7 +30,10 @@ public final class RoomTest {
         for (int i = 0; i < 4; i++) {
             x.newCase(31);
         }
-        Checks.rules(x, "days 2;bar d n>9|n>9|n>9|n>9|n>9;slip x n>1|n>8;slip n n>2|n>9|n>9;slip d n>9;bar f n>8");
+        for (char sign : "days 2;bar d n>9|n>9|n>9|n>9|n>9;slip x n>1|n>8;slip n n>2|n>9|n>9;slip d n>9;bar f n>8".toCharArray()) {
+            x.feed(sign, 1);
+        }
+        x.rules();
         return x;
     }
 
