@@ -9,6 +9,10 @@ public final class Promise05OfTest {
             "of(0, 3, 3) -> 1", "of(0, 3, 4) -> 1", "of(0, 2, 3) -> 0", "of(0, 2, 4) -> 0");
     }
 
+    static void whatIsSoIsSoThoughItDoesNotStandUp() {
+        new Run("newCase(3)", "link(0, 0, 1, true)", "of(0, 0, 3) -> 1", "of(0, 0, 4) -> 0");
+    }
+
     static void whatBelow0OrAbove4IsNone() {
         Twins.changeNothing("of(0, 0, -1) -> NONE", "of(0, 0, 5) -> NONE", "of(0, 0, MIN) -> NONE", "of(0, 0, MAX) -> NONE");
     }

@@ -4,28 +4,21 @@ public final class Promise09MayTest {
         Checks.runAll(Promise09MayTest.class);
     }
 
-    /** A roll by these rules, with points 1 and 2 that excuse 0 and so on. */
-    private static Run linked(String rules) {
-        return new Run(Given.LINKED, "rules(" + rules + ")");
-    }
-
     /** Behind these pleas LAW is barred by each of these tests. */
     private static void holdBehind(String pleas, String... tests) {
-        for (String test : tests) linked("days 2;bar l " + test).go("roll(" + pleas + ")", "may(30) -> 0", "may(10) -> 1");
+        for (String test : tests) Given.linked("days 2;bar l " + test).go("roll(" + pleas + ")", "may(30) -> 0", "may(10) -> 1");
     }
 
     private static void holdNotBehind(String pleas, String... tests) {
-        for (String test : tests) linked("days 2;bar l " + test).go("roll(" + pleas + ")", "may(30) -> 1");
+        for (String test : tests) Given.linked("days 2;bar l " + test).go("roll(" + pleas + ")", "may(30) -> 1");
     }
 
     // ---- PLEAS as numbers
 
     static void whatIsNoPleaIsBad() {
-        Run run = linked("last 5");
+        Run run = Given.linked("last 5");
         for (int plea = -70; plea <= 129; plea++) {
-            boolean is = false;
-            for (int p : Run.ALL_PLEAS) is |= p == plea;
-            if (!is) run.go("may(" + plea + ") -> BAD");
+            if (!Run.isPlea(plea)) run.go("may(" + plea + ") -> BAD");
         }
         run.go("may(MIN) -> BAD", "may(MAX) -> BAD", "may(256) -> BAD", "may(266) -> BAD", "may(-246) -> BAD");
     }
@@ -37,7 +30,7 @@ public final class Promise09MayTest {
 
     static void badWithoutRulesAndAtAnEndToo() {
         new Run("may(0) -> BAD", "may(11) -> BAD", "may(25) -> BAD", "may(70) -> BAD", "rules(last 0)", "may(9) -> BAD", "may(61) -> BAD");
-        linked("last 5").go("roll(10)", "may(19) -> BAD", "may(31) -> BAD", "may(41) -> BAD", "may(49) -> BAD", "may(55) -> BAD");
+        Given.linked("last 5").go("roll(10)", "may(19) -> BAD", "may(31) -> BAD", "may(41) -> BAD", "may(49) -> BAD", "may(55) -> BAD");
     }
 
     static void toAskChangesNothing() {
@@ -48,15 +41,15 @@ public final class Promise09MayTest {
 
     static void behindTheCharge() {
         new Run("rules(last 5)", "open(10 30 60)");
-        linked("last 5").go("open(10 21 22 30 54 60)");
+        Given.linked("last 5").go("open(10 21 22 30 54 60)");
     }
 
     static void excuseIfItsPointExcusesTheOneThatStands() {
-        linked("last 5").go("may(21) -> 1", "may(22) -> 1", "may(23) -> 0", "may(24) -> 0", "roll(21)", "may(23) -> 1", "may(22) -> 0", "may(24) -> 0");
+        Given.linked("last 5").go("may(21) -> 1", "may(22) -> 1", "may(23) -> 0", "may(24) -> 0", "roll(21)", "may(23) -> 1", "may(22) -> 0", "may(24) -> 0");
     }
 
     static void newIfItsPointAssignsTheOneThatStands() {
-        linked("last 5").go("may(54) -> 1", "may(51) -> 0", "roll(54)", "may(51) -> 1", "may(52) -> 0", "may(53) -> 0");
+        Given.linked("last 5").go("may(54) -> 1", "may(51) -> 0", "roll(54)", "may(51) -> 1", "may(52) -> 0", "may(53) -> 0");
     }
 
     static void noPointStandsTwice() {
@@ -72,40 +65,40 @@ public final class Promise09MayTest {
     }
 
     static void point0StandsNotAgain() {
-        linked("last 5").go("may(20) -> 0", "may(50) -> 0", "roll(21)", "may(20) -> 0", "may(50) -> 0");
+        Given.linked("last 5").go("may(20) -> 0", "may(50) -> 0", "roll(21)", "may(20) -> 0", "may(50) -> 0");
     }
 
     static void formIfThereWasAPlea() {
-        linked("last 5").go("may(40) -> 0", "roll(21)", "may(40) -> 1", "roll(54)", "may(40) -> 1");
-        linked("last 5").go("roll(54)", "may(40) -> 1");
+        Given.linked("last 5").go("may(40) -> 0", "roll(21)", "may(40) -> 1", "roll(54)", "may(40) -> 1");
+        Given.linked("last 5").go("roll(54)", "may(40) -> 1");
     }
 
     static void formNotBehindADay() {
-        linked("days 2").go("roll(60)", "may(40) -> 0", "roll(60)", "may(40) -> 0", "roll(21)", "may(40) -> 1", "roll(60)", "may(40) -> 0", "roll(54)", "open()");
-        linked("days 2").go("roll(21 60)", "may(40) -> 0", "roll(54)", "may(40) -> 1");
+        Given.linked("days 2").go("roll(60)", "may(40) -> 0", "roll(60)", "may(40) -> 0", "roll(21)", "may(40) -> 1", "roll(60)", "may(40) -> 0", "roll(54)", "open()");
+        Given.linked("days 2").go("roll(21 60)", "may(40) -> 0", "roll(54)", "may(40) -> 1");
     }
 
     static void dayIfFewerThanDaysWereAskedByTheOneWhoPleads() {
-        linked("days 2").go("roll(60)", "may(60) -> 1", "roll(60)", "may(60) -> 0", "roll(21)", "may(60) -> 1", "roll(60)", "may(60) -> 1", "roll(60)", "open()");
+        Given.linked("days 2").go("roll(60)", "may(60) -> 1", "roll(60)", "may(60) -> 0", "roll(21)", "may(60) -> 1", "roll(60)", "may(60) -> 1", "roll(60)", "open()");
     }
 
     static void daysAreCountedInTheWholeRoll() {
-        linked("days 2").go("roll(60 21 54)", "may(60) -> 1", "roll(60)", "may(60) -> 0");
-        linked("days 1").go("roll(21 60 54)", "may(60) -> 1", "roll(60)", "may(60) -> 0");
-        linked("days 1").go("roll(60 21 54)", "may(60) -> 0");
+        Given.linked("days 2").go("roll(60 21 54)", "may(60) -> 1", "roll(60)", "may(60) -> 0");
+        Given.linked("days 1").go("roll(21 60 54)", "may(60) -> 1", "roll(60)", "may(60) -> 0");
+        Given.linked("days 1").go("roll(60 21 54)", "may(60) -> 0");
     }
 
     static void denyAndLawAtAnyTime() {
-        linked("days 2").go("open(10 21 22 30 54 60)", "roll(60)", "open(10 21 22 30 54 60)", "roll(60)", "open(10 21 22 30 54)", "roll(22)", "open(10 30 40 60)");
+        Given.linked("days 2").go("open(10 21 22 30 54 60)", "roll(60)", "open(10 21 22 30 54 60)", "roll(60)", "open(10 21 22 30 54)", "roll(22)", "open(10 30 40 60)");
     }
 
     // ---- the end
 
     static void nothingBehindDenyLawForm() {
-        linked("last 5").go("roll(10)", "open()");
-        linked("last 5").go("roll(30)", "open()");
-        linked("last 5").go("roll(21 40)", "open()");
-        linked("last 5").go("roll(60 10)", "open()");
+        Given.linked("last 5").go("roll(10)", "open()");
+        Given.linked("last 5").go("roll(30)", "open()");
+        Given.linked("last 5").go("roll(21 40)", "open()");
+        Given.linked("last 5").go("roll(60 10)", "open()");
     }
 
     static void nothingWithoutRules() {
@@ -115,7 +108,7 @@ public final class Promise09MayTest {
     static void fewerThanLastPleasWereMade() {
         int[] row = {60, 60, 21, 60, 60};
         for (int last = 0; last <= 5; last++) {
-            Run run = linked("days 2;last " + last);
+            Run run = Given.linked("days 2;last " + last);
             for (int made = 0; made < last; made++) run.go("may(10) -> 1", "may(30) -> 1", "roll(" + row[made] + ")");
             run.go("open()", "count(3) -> " + last);
         }
@@ -123,72 +116,72 @@ public final class Promise09MayTest {
 
     static void lastIs5AtMost() {
         for (int last = 5; last <= 9; last++) {
-            linked("days 2;last " + last).go("roll(60 60 21 60)", "may(10) -> 1", "roll(60)", "open()", "count(3) -> 5");
+            Given.linked("days 2;last " + last).go("roll(60 60 21 60)", "may(10) -> 1", "roll(60)", "open()", "count(3) -> 5");
         }
     }
 
     static void withoutALastItIs5() {
-        linked("days 2").go("roll(60 60 21 60)", "may(10) -> 1", "roll(60)", "open()");
-        linked("bar d n=9").go("roll(60 21 60 54)", "may(30) -> 1");
+        Given.linked("days 2").go("roll(60 60 21 60)", "may(10) -> 1", "roll(60)", "open()");
+        Given.linked("bar d n=9").go("roll(60 21 60 54)", "may(30) -> 1");
     }
 
     static void theLastLastCounts() {
-        linked("last 1;last 2").go("roll(60)", "may(10) -> 1", "roll(21)", "open()");
-        linked("last 2;last 1").go("roll(60)", "open()");
-        linked("last 5;last 9;last 0").go("open()");
-        linked("last 0;last 9").go("roll(60 21 60 54)", "may(10) -> 1");
-        linked("last 3;days 2;last 1;bar d n=9").go("roll(60)", "open()");
+        Given.linked("last 1;last 2").go("roll(60)", "may(10) -> 1", "roll(21)", "open()");
+        Given.linked("last 2;last 1").go("roll(60)", "open()");
+        Given.linked("last 5;last 9;last 0").go("open()");
+        Given.linked("last 0;last 9").go("roll(60 21 60 54)", "may(10) -> 1");
+        Given.linked("last 3;days 2;last 1;bar d n=9").go("roll(60)", "open()");
     }
 
     static void daysAre0To2() {
-        linked("days 0").go("open(10 21 22 30 54)", "roll(21)", "may(60) -> 0");
-        linked("days 1").go("roll(60)", "may(60) -> 0");
-        linked("days 2").go("roll(60)", "may(60) -> 1", "roll(60)", "may(60) -> 0");
+        Given.linked("days 0").go("open(10 21 22 30 54)", "roll(21)", "may(60) -> 0");
+        Given.linked("days 1").go("roll(60)", "may(60) -> 0");
+        Given.linked("days 2").go("roll(60)", "may(60) -> 1", "roll(60)", "may(60) -> 0");
     }
 
     static void daysAre2AtMost() {
-        for (int days = 2; days <= 9; days++) linked("days " + days).go("roll(60 60)", "open(10 21 22 30 54)");
+        for (int days = 2; days <= 9; days++) Given.linked("days " + days).go("roll(60 60)", "open(10 21 22 30 54)");
     }
 
     static void withoutADaysItIs1() {
-        linked("last 5").go("may(60) -> 1", "roll(60)", "may(60) -> 0");
+        Given.linked("last 5").go("may(60) -> 1", "roll(60)", "may(60) -> 0");
     }
 
     static void theLastDaysCounts() {
-        linked("days 0;days 2").go("roll(60 60)");
-        linked("days 2;days 1").go("roll(60)", "may(60) -> 0");
-        linked("days 2;days 0").go("may(60) -> 0");
-        linked("days 0;last 5;days 9").go("roll(60 60)");
+        Given.linked("days 0;days 2").go("roll(60 60)");
+        Given.linked("days 2;days 1").go("roll(60)", "may(60) -> 0");
+        Given.linked("days 2;days 0").go("may(60) -> 0");
+        Given.linked("days 0;last 5;days 9").go("roll(60 60)");
     }
 
     // ---- bars
 
     static void aBarIsOfItsKindAlone() {
-        linked("bar d n=0").go("open(21 22 30 54 60)");
-        linked("bar x n=0").go("open(10 30 54 60)");
-        linked("bar l n=0").go("open(10 21 22 54 60)");
-        linked("bar n n=0").go("open(10 21 22 30 60)");
-        linked("bar t n=0").go("open(10 21 22 30 54)");
-        linked("bar f n=1").go("roll(21)", "open(10 23 30 54 60)");
-        linked("bar d n=1;bar x n=1;bar l n=1;bar n n=1;bar t n=1").go("roll(21)", "open(40)");
+        Given.linked("bar d n=0").go("open(21 22 30 54 60)");
+        Given.linked("bar x n=0").go("open(10 30 54 60)");
+        Given.linked("bar l n=0").go("open(10 21 22 54 60)");
+        Given.linked("bar n n=0").go("open(10 21 22 30 60)");
+        Given.linked("bar t n=0").go("open(10 21 22 30 54)");
+        Given.linked("bar f n=1").go("roll(21)", "open(10 23 30 54 60)");
+        Given.linked("bar d n=1;bar x n=1;bar l n=1;bar n n=1;bar t n=1").go("roll(21)", "open(40)");
     }
 
     static void oneOfSeveralBarsIsEnough() {
-        linked("bar d n=0;bar d n=9").go("may(10) -> 0");
-        linked("bar d n=9;bar d n=0").go("may(10) -> 0");
-        linked("bar d n=9;bar d n=8").go("may(10) -> 1");
+        Given.linked("bar d n=0;bar d n=9").go("may(10) -> 0");
+        Given.linked("bar d n=9;bar d n=0").go("may(10) -> 0");
+        Given.linked("bar d n=9;bar d n=8").go("may(10) -> 1");
     }
 
     static void theSixthBarCountsToo() {
-        linked("bar d n=9;bar x n=0;last 5;days 2;bar t n=9;bar l n=0").go("open(10 54 60)");
+        Given.linked("bar d n=9;bar x n=0;last 5;days 2;bar t n=9;bar l n=0").go("open(10 54 60)");
     }
 
     static void aBarHoldsWhileItsTestDoes() {
-        linked("bar d n=1").go("may(10) -> 1", "roll(60)", "may(10) -> 0", "roll(21)", "may(10) -> 1");
+        Given.linked("bar d n=1").go("may(10) -> 1", "roll(60)", "may(10) -> 0", "roll(21)", "may(10) -> 1");
     }
 
     static void aSlipIsNoBar() {
-        linked("slip d n=0;slip x n=0;slip l n=0;slip n n=0;slip t n=0").go("open(10 21 22 30 54 60)");
+        Given.linked("slip d n=0;slip x n=0;slip l n=0;slip n n=0;slip t n=0").go("open(10 21 22 30 54 60)");
     }
 
     // ---- tests
@@ -261,6 +254,12 @@ public final class Promise09MayTest {
         holdNotBehind("60 21", "n<2", "n>2", "p<1", "p>1", "k<2", "k>2", "a<1", "a>1", "w<0", "w>0");
     }
 
+    static void nothingIsBelow0() {
+        holdBehind("", "n=0|n<0", "n<0|n=0", "!n<0", "n=0&!n<0", "n=0|n<00");
+        holdNotBehind("", "n<0", "p<0", "w<0", "a<0", "k<0", "n=0&n<0", "n<0|n<00");
+        holdNotBehind("21", "n<0|p<0|w<0|a<0|k<0");
+    }
+
     static void andOrNotParentheses() {
         holdBehind("", "n=0&p=0", "n=1|p=0", "n=0|p=1", "n=0|p=0", "!n=1", "!!n=0", "(n=0)", "!(n=1)", "n=0&!p=1", "!n=0|p=0");
         holdNotBehind("", "n=0&p=1", "n=1&p=0", "n=1|p=1", "!n=0", "!!n=1", "(n=1)", "!(n=0)", "n=0&!p=0", "!n=0|p=1");
@@ -294,7 +293,7 @@ public final class Promise09MayTest {
     }
 
     static void aLinkThatGoesLeavesThePleasThatWereMade() {
-        linked("last 5").go("roll(21)", "link(0, 0, 1, false)", "stands(10) -> 21", "stands(0) -> 1", "open(10 23 30 40 54 60)", "back()", "open(10 22 30 54 60)");
+        Given.linked("last 5").go("roll(21)", "link(0, 0, 1, false)", "stands(10) -> 21", "stands(0) -> 1", "open(10 23 30 40 54 60)", "back()", "open(10 22 30 54 60)");
     }
 
     static void casesDoNotMatter() {

@@ -19,6 +19,11 @@ public final class Promise22ToldTest {
         new Run(READY, "bytes(3: 21 60 22 10)", "told(3, 0, 4, 0) -> -5", "told(3, 0, 4, 1) -> 2", "begin(1)", "told(3, 0, 4, 0) -> -5", "told(3, 0, 4, 1) -> 2");
     }
 
+    static void byTheirLastAndDaysAndBars() {
+        new Run("rules(last 2)", "rules(last 1)", "rules(days 2)", "rules(bar t n=1;days 2)", "bytes(3: 60 60 10)", "told(3, 0, 3, 0) -> 1", "told(3, 0, 3, 1) -> 1",
+            "told(3, 0, 3, 2) -> -5", "told(3, 0, 3, 3) -> 1", "told(3, 1, 2, 0) -> -5", "told(3, 1, 2, 1) -> 1", "told(3, 1, 2, 0) -> -5");
+    }
+
     static void fromTheChargeAndNotFromTheRollOn() {
         new Run(READY, "bytes(3: 21 60 22 10)", "roll(60 10)", "told(3, 0, 4, 0) -> -5", "begin(0)", "roll(21)", "told(3, 0, 1, 0) -> -5", "told(3, 2, 1, 0) -> 0");
     }

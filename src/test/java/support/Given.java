@@ -21,6 +21,11 @@ final class Given {
     private Given() {
     }
 
+    /** A roll by these rules, with the points linked as above. */
+    static Run linked(String rules) {
+        return new Run(LINKED, "rules(" + rules + ")");
+    }
+
     /** Every pair of points is linked, both ways: 32 calls. */
     static String allLinks() {
         StringBuilder rows = new StringBuilder();

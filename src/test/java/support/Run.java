@@ -51,6 +51,10 @@ final class Run {
         return calls;
     }
 
+    static boolean isPlea(int number) {
+        return Arrays.stream(ALL_PLEAS).anyMatch(plea -> plea == number);
+    }
+
     private void take(String row) {
         int arrow = row.lastIndexOf(" -> ");
         String call = arrow < 0 ? row : row.substring(0, arrow);
